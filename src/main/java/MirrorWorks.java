@@ -48,6 +48,7 @@ public final class MirrorWorks {
     private static final int MOST_LINK_BYTES = 100;
     private static final int MOST_SOURCE_BYTES = 4000;
     private static final int MOST_SESSIONS = 30;
+    private static final int LATEST_OF_ALL = 2147483647;
     private static final int MOST_STEPS = 400;
     private static final int MOST_NAME = 24;
     private static final int MOST_NAMES = 4;
@@ -1186,7 +1187,6 @@ public final class MirrorWorks {
             for (int i = done - 1; i >= synced + kept && i < operations.size(); i--) {
                 takeBack(operations.get(i));
             }
-            clear();
             return kept;
         }
 
@@ -1352,7 +1352,7 @@ public final class MirrorWorks {
                     addDelete(file);
                 }
             }
-            planDropOfWaysBack(drive.sessions() == 0 ? Integer.MAX_VALUE : drive.sessionTime(0));
+            planDropOfWaysBack(drive.sessions() == 0 ? LATEST_OF_ALL : drive.sessionTime(0));
         }
     }
 
@@ -1385,6 +1385,7 @@ public final class MirrorWorks {
                 if (i == blocks - 1) {
                     schedule[15] = 8 * bytes.length;
                 }
+                spreadSchedule();
                 mixBlock();
             }
         }
@@ -1433,7 +1434,6 @@ public final class MirrorWorks {
         }
 
         private void mixBlock() {
-            spreadSchedule();
             int a = state[0];
             int b = state[1];
             int c = state[2];

@@ -95,6 +95,34 @@ public final class CommandTest {
         Check.due("22 the result stays", Check.tree(x, 2), result);
     }
 
+    /** Each path is found as it is written, and by no word that only comes near it. */
+    private static void pathsAsWords() {
+        MirrorWorks x = new MirrorWorks();
+        String[] paths = {"\037", " ", "!", "$", "%", "0", "9", "J", "Z", "f", "j", "x ", "y\037", "y\u00f2", "~", "\177", "\u00ff"};
+        String[] words = {"%1f", "%20", "!", "$", "%25", "0", "9", "J", "Z", "f", "j", "x%20", "y%1f", "y%f2", "~", "%7f", "%ff"};
+        StringBuilder all = new StringBuilder();
+        for (int i = 0; i < paths.length; i++) {
+            Check.make(x, paths[i], 1, 0, i);
+            all.append("f 0000 ").append(i).append(" 0 ").append(words[i]).append('\n');
+        }
+        Check.session(x, 1);
+        due(x, "list now", 0, all.toString());
+        for (int i = 0; i < paths.length; i++) {
+            due(x, "list now " + words[i], 0, "f 0000 " + i + " 0 " + words[i] + "\n");
+        }
+        String[] others = {"%30", "%39", "%4a", "%4A", "%5a", "%5A", "%66", "%6A", "x%20", "y%F2", "%7e", "%21"};
+        String[] same = {"0", "9", "J", "J", "Z", "Z", "f", "j", "x%20", "y%f2", "~", "!"};
+        for (int i = 0; i < others.length; i++) {
+            Check.due("22 " + others[i], Check.command(x, "list now " + others[i]), 0);
+            Check.due("22 " + others[i], Check.output(x).substring(Check.output(x).lastIndexOf(' ') + 1), same[i] + "\n");
+        }
+        String[] near = {"y%2g", "y%g2", "%2G", "%2@", "%2`", "%3:", "%2/", "%", "%%", "\177", "\u00ff", "\037", "x%2", "x%", "y%f"};
+        for (String word : near) {
+            Check.command(x, "list now x%20%20");
+            due(x, "list now " + word, 5, "");
+        }
+    }
+
     private static void restore() {
         MirrorWorks x = three();
         due(x, "restore now", 0, "entries 3\nbytes 5\n");
@@ -230,6 +258,7 @@ public final class CommandTest {
         backup();
         wrongWords();
         list();
+        pathsAsWords();
         restore();
         changes();
         states();
