@@ -1124,7 +1124,7 @@ public final class MirrorWorks {
         }
     }
 
-    /** Takes one file from the disk, puts one there, or both; neither of them is a SYNC. */
+    /** Takes a file from the disk, puts one there, or does both; an operation with neither is a SYNC. */
     private static final class Operation {
         final DiskFile from;
         final DiskFile to;
