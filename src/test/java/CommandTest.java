@@ -3,7 +3,7 @@ public final class CommandTest {
     private CommandTest() {
     }
 
-    private static void due(MirrorWorks x, String words, int code, String output) {
+    private static void due(Works x, String words, int code, String output) {
         Check.due("22 [" + words + "]", Check.command(x, words), code);
         Check.due("23 [" + words + "]", Check.output(x), output);
         Check.due("22 the tape behind [" + words + "]", x.about(6), 0);
@@ -13,8 +13,8 @@ public final class CommandTest {
     }
 
     /** Sessions 10, 20 and 86410. */
-    private static MirrorWorks three() {
-        MirrorWorks x = new MirrorWorks();
+    private static Works three() {
+        Works x = new Works();
         Check.make(x, "d", 2, 493, 5);
         Check.file(x, "d/a b", "abc");
         Check.file(x, "d.", "");
@@ -33,7 +33,7 @@ public final class CommandTest {
     }
 
     private static void backup() {
-        MirrorWorks x = three();
+        Works x = three();
         Check.due("22 at rest", x.about(0), 0);
         Check.due("22 operations", x.about(7), 19 + 7 + 5 + 6 + 7);
         String[] none = {"now", "1B", "10x", "x", "-1", "1234567890", "86410", "86409", "0"};
@@ -42,7 +42,7 @@ public final class CommandTest {
         }
         due(x, "backup 86411", 7, "entries 3\nchanges 0\nnew 0\nother 0\ngone 0\nbytes 5\nerrors 1\n");
         due(x, "backup 999999999", 7, "entries 3\nchanges 0\nnew 0\nother 0\ngone 0\nbytes 5\nerrors 1\n");
-        MirrorWorks y = new MirrorWorks();
+        Works y = new Works();
         for (int i = 0; i < 30; i++) {
             due(y, "backup " + i, 0, "entries 0\nchanges 0\nnew 0\nother 0\ngone 0\nbytes 0\nerrors 0\n");
         }
@@ -55,7 +55,7 @@ public final class CommandTest {
     }
 
     private static void wrongWords() {
-        MirrorWorks x = three();
+        Works x = three();
         String[] wrong = {"", " ", "   ", "backups 1", "Backup 1", "backup", "backup 1 2", "prune", "prune now now", "verify",
             "verify now d", "check now", "check check", "restore", "restore now d d", "list", "list now d d", "changes",
             "changes now", "changes now now now", "sessions now", "now", "backup\n1", "lis now", "list\0 now"};
@@ -78,7 +78,7 @@ public final class CommandTest {
     }
 
     private static void list() {
-        MirrorWorks x = three();
+        Works x = three();
         Check.restore(x, "20");
         String result = Check.tree(x, 2);
         String now = "d 0007 0 0 d\nl 0777 8 2 d/%25%ff~\nf 0644 7 3 d/a%20b\n";
@@ -97,7 +97,7 @@ public final class CommandTest {
 
     /** Each path is found as it is written, and by no word that only comes near it. */
     private static void pathsAsWords() {
-        MirrorWorks x = new MirrorWorks();
+        Works x = new Works();
         String[] paths = {"\037", " ", "!", "$", "%", "0", "9", "J", "Z", "f", "j", "x ", "y\037", "y\u00f2", "~", "\177", "\u00ff"};
         String[] words = {"%1f", "%20", "!", "$", "%25", "0", "9", "J", "Z", "f", "j", "x%20", "y%1f", "y%f2", "~", "%7f", "%ff"};
         StringBuilder all = new StringBuilder();
@@ -124,7 +124,7 @@ public final class CommandTest {
     }
 
     private static void restore() {
-        MirrorWorks x = three();
+        Works x = three();
         due(x, "restore now", 0, "entries 3\nbytes 5\n");
         Check.due("22 the result", Check.tree(x, 2), "d 2 7 0 [];d/%\u00ff~ 3 511 8 [to];d/a b 1 420 7 [abc];");
         due(x, "restore 19 d", 0, "entries 2\nbytes 3\n");
@@ -145,7 +145,7 @@ public final class CommandTest {
     }
 
     private static void changes() {
-        MirrorWorks x = three();
+        Works x = three();
         due(x, "changes now 10", 0, "other d\ngone d/%25%ff~\nnew d.\n");
         due(x, "changes 1B now", 0, "");
         due(x, "changes now now", 0, "");
@@ -159,14 +159,14 @@ public final class CommandTest {
         due(x, "prune 90000", 0, "sessions 2\n");
         due(x, "sessions", 0, "90000 3 1\n90001 3 0\n");
         due(x, "verify 0B", 0, "wrong 0\n");
-        MirrorWorks y = new MirrorWorks();
+        Works y = new Works();
         due(y, "sessions", 0, "");
         due(y, "list now", 2, "");
         due(y, "check", 0, "well\n");
     }
 
     private static void states() {
-        MirrorWorks x = three();
+        Works x = three();
         due(x, "sessions", 0, "10 3 2\n20 3 2\n86410 3 0\n");
         x.begin(90000);
         Check.due("22 under way", Check.command(x, "check"), Check.STATE);
@@ -199,13 +199,13 @@ public final class CommandTest {
         due(x, "check", 0, "recovered\n");
         due(x, "check", 0, "well\n");
         due(x, "sessions", 0, "10 3 2\n20 3 2\n86410 3 0\n");
-        MirrorWorks y = new MirrorWorks();
+        Works y = new Works();
         y.begin(1);
         y.crash(0);
         due(y, "restore now", 2, "");
         due(y, "backup 1", 3, "");
         due(y, "check", 0, "recovered\n");
-        MirrorWorks z = new MirrorWorks();
+        Works z = new Works();
         Check.session(z, Integer.MAX_VALUE);
         due(z, "sessions", 0, "2147483647 0 0\n");
         due(z, "backup 999999999", 4, "");
@@ -214,35 +214,34 @@ public final class CommandTest {
         due(z, "list 0s", 0, "");
     }
 
-    /** The longest output: all paths of two trees, each byte written as three. */
+    /** The longest output that 512 calls allow: forty long paths, each byte written as three. */
     private static void longest() {
-        MirrorWorks x = new MirrorWorks();
-        StringBuilder due = new StringBuilder();
+        Works x = new Works();
+        StringBuilder list = new StringBuilder();
+        StringBuilder gone = new StringBuilder();
         String name = "\u00ff".repeat(23);
         String written = "%ff".repeat(23);
-        for (int tree = 0; tree < 2; tree++) {
-            String path = "";
-            String shown = "";
-            for (int depth = 0; depth < 3; depth++) {
-                path += (depth == 0 ? "" : "/") + name + (char) (128 + tree);
-                shown += (depth == 0 ? "" : "/") + written + "%8" + tree;
-                Check.make(x, path, 2, 0, 0);
-                due.append(tree == 0 ? "gone " : "new ").append(shown).append('\n');
-            }
-            for (int i = 0; i < 37; i++) {
-                Check.make(x, path + "/" + name + (char) (160 + i), 1, 0, 0);
-                due.append(tree == 0 ? "gone " : "new ").append(shown).append('/').append(written);
-                due.append(String.format("%%%02x\n", 160 + i));
-            }
-            Check.session(x, tree);
-            Check.choose(x, name + (char) (128 + tree));
-            x.remove();
+        String path = "";
+        String shown = "";
+        for (int i = 0; i < 40; i++) {
+            int last = 160 + i;
+            String tail = String.format("%s%%%02x", written, last);
+            Check.make(x, path + name + (char) last, i < 3 ? 2 : 1, 4095, Integer.MAX_VALUE);
+            list.append(i < 3 ? "d" : "f").append(" 7777 2147483647 0 ").append(shown).append(tail).append('\n');
+            gone.append("gone ").append(shown).append(tail).append('\n');
+            path += i < 3 ? name + (char) last + "/" : "";
+            shown += i < 3 ? tail + "/" : "";
         }
-        due(x, "changes 0 1", 0, due.toString());
+        Check.session(x, 0);
+        due(x, "list now", 0, list.toString());
+        Check.choose(x, name + (char) 160);
+        x.remove();
+        Check.session(x, 1);
+        due(x, "changes 0 1", 0, gone.toString());
     }
 
     private static void output() {
-        MirrorWorks x = new MirrorWorks();
+        Works x = new Works();
         Check.due("23 ahead of any", x.output(), 0);
         Check.due("24 ahead of any", x.outputAt(0), -1);
         Check.command(x, "check");

@@ -4,8 +4,8 @@ public final class DiskTest {
     }
 
     /** Two sessions, 100 and 200: a stays, b is other, c goes, e comes. */
-    private static MirrorWorks two() {
-        MirrorWorks x = new MirrorWorks();
+    private static Works two() {
+        Works x = new Works();
         Check.file(x, "a", "aa");
         Check.file(x, "b", "bb");
         Check.file(x, "c", "cc");
@@ -22,7 +22,7 @@ public final class DiskTest {
     private static final String SECOND = "a 1 420 7 [aa];b 1 420 7 [bB];e 1 420 7 [];";
 
     private static void begin() {
-        MirrorWorks x = new MirrorWorks();
+        Works x = new Works();
         Check.due("10 below 0", Check.of(() -> x.begin(-1)), Check.ARGUMENT);
         Check.due("10 an empty tree", x.begin(0), 7);
         Check.due("10 state", x.about(0), 1);
@@ -32,12 +32,12 @@ public final class DiskTest {
         Check.make(x, "d", 2, 0, 0);
         Check.due("10 directories have no content", x.begin(1), 7);
         Check.finish(x);
-        MirrorWorks y = two();
+        Works y = two();
         Check.due("10 not above, two", Check.of(() -> y.begin(100)), Check.ARGUMENT);
         Check.due("10 one other, one gone, one new", y.begin(101), 7 + 8 + 5 + 6);
         y.crash(0);
         Check.due("10 broken", Check.of(() -> y.begin(300)), Check.STATE);
-        MirrorWorks z = new MirrorWorks();
+        Works z = new Works();
         for (int i = 0; i < 30; i++) {
             Check.session(z, i);
         }
@@ -50,7 +50,7 @@ public final class DiskTest {
     }
 
     private static void operations() {
-        MirrorWorks x = two();
+        Works x = two();
         x.begin(200);
         String[] disks = {
             "3 0 3 1 1 1 0", "3 0 3 1 1 1 0", "3 0 4 1 1 1 0", "3 0 4 1 1 1 0", "2 1 4 1 1 1 0", "2 1 4 1 1 1 1",
@@ -75,7 +75,7 @@ public final class DiskTest {
     }
 
     private static void step() {
-        MirrorWorks x = two();
+        Works x = two();
         Check.due("13 nothing to do", Check.of(() -> x.step(1)), Check.STATE);
         Check.due("13 nothing to do, first", Check.of(() -> x.step(-1)), Check.STATE);
         x.begin(200);
@@ -87,7 +87,7 @@ public final class DiskTest {
         Check.due("13 as many as there are", x.step(400), 1);
         Check.due("13 at rest", x.about(0), 0);
         Check.due("14 nothing to break off", Check.of(() -> x.crash(0)), Check.STATE);
-        MirrorWorks y = new MirrorWorks();
+        Works y = new Works();
         Check.make(y, "d", 2, 0, 0);
         for (int i = 0; i < 39; i++) {
             Check.make(y, "d/" + i, 1, 0, 0);
@@ -107,7 +107,7 @@ public final class DiskTest {
     private static void crashes() {
         for (int done = 0; done < 26; done++) {
             for (int n = 0; n < 4; n++) {
-                MirrorWorks x = two();
+                Works x = two();
                 x.begin(200);
                 x.step(done);
                 x.crash(n);
@@ -120,7 +120,7 @@ public final class DiskTest {
         }
     }
 
-    private static void recovered(MirrorWorks x, boolean committed, String what) {
+    private static void recovered(Works x, boolean committed, String what) {
         int count = x.recover();
         Check.due(what + " state", x.about(0), 4);
         Check.due(what + " recovers", x.step(400), count);
@@ -140,7 +140,7 @@ public final class DiskTest {
     }
 
     private static void crash() {
-        MirrorWorks x = two();
+        Works x = two();
         Check.due("14 at rest, first", Check.of(() -> x.crash(-1)), Check.STATE);
         x.begin(200);
         Check.due("14 -1", Check.of(() -> x.crash(-1)), Check.ARGUMENT);
@@ -155,12 +155,12 @@ public final class DiskTest {
         x.step(1);
         Check.due("14 recovery breaks off", x.crash(0), 0);
         Check.due("14 what stayed stays", Check.disk(x), "2 1 4 1 1 1 0");
-        MirrorWorks y = two();
+        Works y = two();
         y.begin(200);
         y.step(6);
         Check.due("14 all if there are fewer", y.crash(Integer.MAX_VALUE), 2);
         Check.due("14 disk, all", Check.disk(y), "2 1 4 1 1 1 1");
-        MirrorWorks z = two();
+        Works z = two();
         z.begin(200);
         z.step(22);
         Check.due("14 the commit is lost", z.crash(0), 0);
@@ -169,7 +169,7 @@ public final class DiskTest {
     }
 
     private static void recover() {
-        MirrorWorks x = two();
+        Works x = two();
         Check.due("12 at rest", Check.of(x::recover), Check.STATE);
         x.begin(200);
         Check.due("12 under way", Check.of(x::recover), Check.STATE);
@@ -190,7 +190,7 @@ public final class DiskTest {
     }
 
     private static void committed() {
-        MirrorWorks x = two();
+        Works x = two();
         x.begin(200);
         x.step(23);
         x.crash(0);
@@ -205,7 +205,7 @@ public final class DiskTest {
         Check.due("12 once more", x.recover(), 1 + 3 + 1);
         Check.finish(x);
         Check.due("12 disk", Check.disk(x), "3 0 3 2 0 2 0");
-        MirrorWorks y = new MirrorWorks();
+        Works y = new Works();
         Check.file(y, "a", "a");
         y.begin(5);
         y.crash(0);
@@ -217,8 +217,8 @@ public final class DiskTest {
         Check.due("12 B goes", y.recover(), 4);
     }
 
-    private static MirrorWorks four() {
-        MirrorWorks x = two();
+    private static Works four() {
+        Works x = two();
         Check.session(x, 200);
         Check.choose(x, "a");
         x.cut(0);
@@ -229,7 +229,7 @@ public final class DiskTest {
     }
 
     private static void pruned() {
-        MirrorWorks x = four();
+        Works x = four();
         Check.prune(x, "300");
         x.step(2);
         Check.due("12 pruning breaks off", x.crash(1), 1);
@@ -245,7 +245,7 @@ public final class DiskTest {
     }
 
     private static void prune() {
-        MirrorWorks x = four();
+        Works x = four();
         Check.due("11 no time", Check.prune(x, "x"), Check.ARGUMENT);
         Check.due("11 the tape", x.about(6), 0);
         Check.due("11 means none", Check.prune(x, "99"), Check.ARGUMENT);
@@ -273,7 +273,7 @@ public final class DiskTest {
     }
 
     private static void edits() {
-        MirrorWorks x = four();
+        Works x = four();
         Check.prune(x, "300");
         Check.due("4 while it prunes", Check.make(x, "z", 1, 0, 0), 3);
         Check.due("6 while it prunes", Check.write(x, "z", 0), 1);
@@ -285,7 +285,7 @@ public final class DiskTest {
     }
 
     private static void restore() {
-        MirrorWorks x = four();
+        Works x = four();
         Check.due("15 how many", Check.restore(x, "100"), 3);
         Check.due("15 the tape", x.about(6), 0);
         Check.due("15 100", Check.tree(x, 2), FIRST);
@@ -314,7 +314,7 @@ public final class DiskTest {
 
     /** What was a file becomes a directory, then a link, and is no content change as such. */
     private static void kinds() {
-        MirrorWorks x = new MirrorWorks();
+        Works x = new Works();
         Check.file(x, "p", "abc");
         Check.session(x, 1);
         x.remove();
@@ -340,7 +340,7 @@ public final class DiskTest {
     }
 
     private static void times() {
-        MirrorWorks x = new MirrorWorks();
+        Works x = new Works();
         int[] times = {0, 59, 3600, 86400, 1000000};
         for (int i = 0; i < times.length; i++) {
             Check.make(x, "f" + i, 1, 0, 0);
@@ -360,7 +360,7 @@ public final class DiskTest {
     }
 
     private static void locked() {
-        MirrorWorks x = new MirrorWorks();
+        Works x = new Works();
         Check.file(x, "f", "one");
         x.set(1, 1, true);
         Check.due("10 locked and not there before", x.begin(1), 7);
@@ -391,7 +391,7 @@ public final class DiskTest {
     }
 
     private static void facts() {
-        MirrorWorks x = two();
+        Works x = two();
         Check.make(x, "d", 2, 0, 0);
         Check.session(x, 200);
         int[][] facts = {{100, 3, 3, 3, 0, 0, 6, 0}, {200, 4, 3, 2, 1, 1, 4, 0}};
@@ -415,7 +415,7 @@ public final class DiskTest {
     }
 
     private static void sums() {
-        MirrorWorks x = new MirrorWorks();
+        Works x = new Works();
         Check.make(x, "d", 2, 0, 0);
         int[] lengths = {0, 3, 55, 56, 63, 64, 119, 120};
         for (int length : lengths) {

@@ -1,6 +1,9 @@
 import java.util.Random;
 
-/** Many runs of calls, the same ones each time, on the works and on the model of the document. */
+/**
+ * Many runs of calls, the same ones each time, on the works and on the model of the document. They
+ * end well ahead of the 512th call, so that there is room to look at everything.
+ */
 public final class ModelTest {
     private static final String[] NAMES = {
         "a", "b", "d", "e", "a b", "d%", "d.", "\001", "d\001", "\377", "d-", "...", "X", "0123456789abcdefghijklmn",
@@ -14,7 +17,7 @@ public final class ModelTest {
     };
 
     private final Random random;
-    private final MirrorWorks works = new MirrorWorks();
+    private final Works works = new Works();
     private final Model model = new Model();
     private final int run;
     private int clock = 0;
@@ -136,7 +139,7 @@ public final class ModelTest {
             case 20, 21 -> {
                 tape(commandWords());
                 same("command()", Check.of(works::command), Check.of(model::command));
-                whole();
+                output();
             }
             default -> work();
         }
@@ -224,6 +227,11 @@ public final class ModelTest {
                 Check.due(at + "session", works.session(i, what), model.session(i, what));
             }
         }
+        output();
+    }
+
+    private void output() {
+        String at = "run " + run + " ";
         Check.due(at + "output", works.output(), model.output());
         for (int i = -1; i <= model.output(); i++) {
             Check.due(at + "outputAt", works.outputAt(i), model.outputAt(i));
@@ -231,10 +239,11 @@ public final class ModelTest {
     }
 
     public static void main(String[] args) {
-        int runs = args.length > 0 ? Integer.parseInt(args[0]) : 600;
+        int runs = args.length > 0 ? Integer.parseInt(args[0]) : 1500;
         for (int run = 0; run < runs; run++) {
             ModelTest test = new ModelTest(run);
-            for (int i = 0; i < 250; i++) {
+            int most = 50 + test.below(400);
+            while (test.works.changeCount() < most) {
                 test.turn();
             }
             test.whole();

@@ -6,7 +6,7 @@ public final class SourceTest {
     }
 
     private static void aNewObject() {
-        MirrorWorks x = new MirrorWorks();
+        Works x = new Works();
         for (int what = 0; what < 8; what++) {
             Check.due("1 about(" + what + ")", x.about(what), 0);
         }
@@ -21,7 +21,7 @@ public final class SourceTest {
     }
 
     private static void feed() {
-        MirrorWorks x = new MirrorWorks();
+        Works x = new Works();
         x.feed(0x61626364, 0x65666768, 0x696a6b6c, 0x6d6e6f70, 0x71727374);
         x.end(20);
         x.make(1, 0, 0);
@@ -37,7 +37,7 @@ public final class SourceTest {
     }
 
     private static void end() {
-        MirrorWorks x = new MirrorWorks();
+        Works x = new Works();
         x.feed(0x61620000, 0, 0, 0, 0);
         Check.due("3 -1", x.end(-1), -1);
         Check.due("3 21", x.end(21), -1);
@@ -59,7 +59,7 @@ public final class SourceTest {
     }
 
     private static void make() {
-        MirrorWorks x = new MirrorWorks();
+        Works x = new Works();
         Check.due("4 a directory", Check.make(x, "d", 2, 0, 0), 1);
         Check.due("4 a file", Check.make(x, "d/f", 1, 4095, Integer.MAX_VALUE), 2);
         Check.due("4 a link", Check.make(x, "d/" + NAME_24, 3, 1, 1), 3);
@@ -104,7 +104,7 @@ public final class SourceTest {
     }
 
     private static void choose() {
-        MirrorWorks x = new MirrorWorks();
+        Works x = new Works();
         Check.make(x, "d", 2, 0, 0);
         Check.make(x, "d/l", 3, 0, 0);
         Check.make(x, "d/f", 1, 0, 0);
@@ -123,7 +123,7 @@ public final class SourceTest {
     }
 
     private static void write() {
-        MirrorWorks x = new MirrorWorks();
+        Works x = new Works();
         Check.due("6 nothing is chosen", Check.write(x, "a", 0), Check.STATE);
         Check.due("6 the tape is empty then", x.about(6), 0);
         Check.make(x, "d", 2, 0, 0);
@@ -153,7 +153,7 @@ public final class SourceTest {
     }
 
     private static void limits() {
-        MirrorWorks x = new MirrorWorks();
+        Works x = new Works();
         Check.make(x, "l", 3, 0, 0);
         Check.due("6 a link of 100", Check.write(x, "l".repeat(100), 0), 100);
         Check.due("6 of 101", Check.write(x, "l", 100), Check.STATE);
@@ -175,7 +175,7 @@ public final class SourceTest {
     }
 
     private static void cut() {
-        MirrorWorks x = new MirrorWorks();
+        Works x = new Works();
         Check.due("7 nothing is chosen", Check.of(() -> x.cut(0)), Check.STATE);
         Check.make(x, "d", 2, 0, 0);
         Check.due("7 a directory", Check.of(() -> x.cut(0)), Check.STATE);
@@ -197,7 +197,7 @@ public final class SourceTest {
     }
 
     private static void set() {
-        MirrorWorks x = new MirrorWorks();
+        Works x = new Works();
         Check.due("8 nothing is chosen, first", Check.of(() -> x.set(-1, -1, true)), Check.STATE);
         Check.make(x, "d", 2, 1, 1);
         x.set(4095, 9, false);
@@ -233,7 +233,7 @@ public final class SourceTest {
     }
 
     private static void remove() {
-        MirrorWorks x = new MirrorWorks();
+        Works x = new Works();
         Check.due("9 nothing is chosen", Check.of(x::remove), Check.STATE);
         Check.make(x, "d", 2, 0, 0);
         Check.make(x, "d/e", 2, 0, 0);
@@ -258,7 +258,7 @@ public final class SourceTest {
     }
 
     private static void entryAndAt() {
-        MirrorWorks x = new MirrorWorks();
+        Works x = new Works();
         String[] paths = {"d", "e", "d/z", "d/\001", "d\001", "d.", "d/z z", "d/\u00ff", "D", "\u0080", "~"};
         for (String path : paths) {
             Check.make(x, path, path.equals("d") ? 2 : 1, 5, 6);

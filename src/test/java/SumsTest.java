@@ -17,8 +17,8 @@ public final class SumsTest {
     }
 
     /** Changes a bit of the content of the files of a sort and a path, behind the back of the works. */
-    private static void spoil(MirrorWorks works, int sort, String path) {
-        for (Object file : (List<?>) field(field(works, "drive"), "files")) {
+    private static void spoil(Works works, int sort, String path) {
+        for (Object file : (List<?>) field(field(works.object(), "drive"), "files")) {
             byte[] content = (byte[]) field(file, "content");
             String name = new String((byte[]) field(file, "path"), java.nio.charset.StandardCharsets.ISO_8859_1);
             if ((Integer) field(file, "sort") == sort && name.equals(path) && content != null) {
@@ -28,7 +28,7 @@ public final class SumsTest {
     }
 
     public static void main(String[] args) {
-        MirrorWorks x = new MirrorWorks();
+        Works x = new Works();
         Check.make(x, "d", 2, 0, 0);
         Check.file(x, "d/a", "aaa");
         Check.file(x, "d/b", "bbb");
