@@ -79,6 +79,10 @@ public final class CommandsEdgeTest {
         due(x, "sessions" + " ".repeat(392), 0, sessions);
         due(x, "  list   10    d.   ", 0, "f 0644 7 0 d.\n");
         due(x, "list" + " ".repeat(191) + "10" + " ".repeat(201) + "d.", 0, "f 0644 7 0 d.\n");
+        refused(x, "list" + " ".repeat(393) + "1m1", 2);
+        refused(x, "list" + " ".repeat(395) + "1", 2);
+        refused(x, "list now" + " ".repeat(390) + "d%", 5);
+        refused(x, "list now" + " ".repeat(389) + "d%2", 5);
         for (String none : new String[] {"\tsessions", "sessions\t", "sessions\n", "sessions\0", "list\t10", "list\0now", "list\u00a010",
             "list\03710", "list!10", "list10", "list10 d.", "ses sions"}) {
             refused(x, none, 1);
@@ -144,7 +148,50 @@ public final class CommandsEdgeTest {
             refused(x, "list now " + word, word.indexOf(' ') < 0 ? 5 : 1);
             refused(x, "restore now " + word, word.indexOf(' ') < 0 ? 5 : 1);
         }
+        everyByte();
+        nearPaths();
         longestPath();
+    }
+
+    /** Each name of one byte is found by its two digits of both sizes, and as it is only if it is 33 .. 126. */
+    private static void everyByte() {
+        for (int b = 1; b < 256; b++) {
+            if (b == '/' || b == '.') {
+                continue;
+            }
+            Works x = new Works();
+            Check.make(x, "a" + (char) b, 1, 0, b);
+            Check.session(x, 1);
+            String line = "f 0000 " + b + " 0 a" + written(b) + "\n";
+            due(x, "list now " + String.format("a%%%02x", b), 0, line);
+            due(x, "list now " + String.format("a%%%02X", b), 0, line);
+            due(x, "list now " + String.format("%%61%%%02x", b), 0, line);
+            if (b > 32 && b < 127 && b != '%') {
+                due(x, "list now a" + (char) b, 0, line);
+            } else {
+                refused(x, "list now a" + (char) b, 5);
+            }
+        }
+    }
+
+    /** What comes near a path that is there, by digits that are none or by what the tape had before, is none. */
+    private static void nearPaths() {
+        Works x = new Works();
+        String[] paths = {"\037", "\001", "\u00f2", "\u00ef", "a ", "a\002", "a%", "a%2", "a2", "a0", "2", "g"};
+        for (String path : paths) {
+            Check.make(x, path, 1, 0, 0);
+        }
+        Check.session(x, 1);
+        for (String word : new String[] {"%2g", "%g2", "%2G", "%G2", "%2/", "%2:", "%2@", "%2`", "%-1", "%1-", "a%2", "a%", "a%%", "%%2", "%0g"}) {
+            Works y = x.twin();
+            Check.command(y, "list now a%20%20%20");
+            refused(y, "list now " + word, 5);
+            Check.command(y, "list now " + "0".repeat(391));
+            refused(y, "list now " + word, 5);
+        }
+        due(x, "list now a%25", 0, "f 0000 0 0 a%25\n");
+        due(x, "list now a%252", 0, "f 0000 0 0 a%252\n");
+        due(x, "list now a%20", 0, "f 0000 0 0 a%20\n");
     }
 
     private static void longestPath() {
@@ -491,6 +538,30 @@ public final class CommandsEdgeTest {
         due(x, "changes 2 3", 0, "other content\nnew d/%ff%20%25\nother kind\nother mode\nother time\ngone went\n");
         due(x, "changes 3 2", 0, "other content\ngone d/%ff%20%25\nother kind\nother mode\nother time\nnew went\n");
         due(x, "changes 3 now", 0, "");
+        changesOfAll();
+    }
+
+    /** Two trees of forty entries that have no path in common. */
+    private static void changesOfAll() {
+        Works x = new Works();
+        Check.make(x, "b", 2, 0, 0);
+        for (int i = 1; i < 40; i++) {
+            Check.make(x, "b/" + (char) ('A' + i), 3, 0, 0);
+        }
+        Check.session(x, 1);
+        Check.choose(x, "b");
+        x.remove();
+        Check.make(x, "c", 2, 0, 0);
+        StringBuilder gone = new StringBuilder("gone b\n");
+        StringBuilder comes = new StringBuilder("new c\n");
+        for (int i = 1; i < 40; i++) {
+            Check.make(x, "c/" + (char) ('A' + i), 3, 0, 0);
+            gone.append("gone b/").append((char) ('A' + i)).append('\n');
+            comes.append("new c/").append((char) ('A' + i)).append('\n');
+        }
+        Check.session(x, 2);
+        due(x, "changes 1 2", 0, gone.toString() + comes);
+        due(x, "changes 2 1", 0, gone.toString().replace("gone", "new") + comes.toString().replace("new", "gone"));
     }
 
     private static void sessions() {

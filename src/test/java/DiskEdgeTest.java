@@ -305,6 +305,7 @@ public final class DiskEdgeTest {
         Check.finish(x);
         Check.due("the result stays through pruning", x.about(4), 2);
         Check.due("nothing is left of it on the disk", Check.disk(x), "0 0 0 1 0 1 0");
+        wayBack();
         Check.sentence("How many entries of that TREE have content whose sum is not the one that was told with the session: 0 always, if the"
                 + " works is right. As for restore(), which it is, too (THE RESULT is that TREE).");
         Works y = at(0);
@@ -314,6 +315,23 @@ public final class DiskEdgeTest {
         Check.due("the tree of 100", Check.tree(y, 2), "d 2 1 1 [];d/f 1 2 2 [abc];");
         Check.due("no entries", Check.verify(x, "300"), 0);
         Check.due("no result", x.about(4), 0);
+    }
+
+    /** What leads back is found where nothing else is on the disk, and words behind those of a command. */
+    private static void wayBack() {
+        Works x = new Works();
+        Check.file(x, "a", "abc");
+        Check.session(x, 1);
+        Check.command(x, "prune now");
+        x.remove();
+        Check.session(x, 2);
+        Check.due("one I alone", Check.disk(x), "0 0 1 2 0 2 0");
+        Check.due("it leads back", Check.verify(x, "1"), 0);
+        Check.due("to what was there", Check.tree(x, 2), "a 1 420 7 [abc];");
+        Check.command(x, "   sessions");
+        Check.due("words behind a command with blanks ahead", Check.restore(x, "now"), 0);
+        Check.command(x, "list 1");
+        Check.due("words behind a longer command", Check.restore(x, "1"), 1);
     }
 
     private static void entry() {

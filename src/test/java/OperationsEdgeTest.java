@@ -189,6 +189,13 @@ public final class OperationsEdgeTest {
         breaksOff("undoing", () -> recovering(underWay(two(), 200, 21), 0), "U>M! U>M -M S -I -I -I -T S -B S",
                 FIRST, SECOND);
         breaksOff("finishing", () -> recovering(underWay(two(), 200, 23), 0), "-U -U -I -I -I S", FIRST, SECOND);
+        breaksOff("the first session", () -> {
+            Works x = new Works();
+            Check.file(x, "a", "aa");
+            Check.file(x, "b", "bb");
+            Check.file(x, "c", "cc");
+            return underWay(x, 100, 0);
+        }, "+B S +I S +X S X>M S +I S +X S X>M S +I S +X S X>M S +T S B>C S S", FIRST);
     }
 
     private static void sessions() {
@@ -268,6 +275,43 @@ public final class OperationsEdgeTest {
             isWhole("behind " + done[i], x, FIRST);
             Check.due("undone behind " + done[i], Check.disk(x), "3 0 3 1 0 1 0");
         }
+        ofTheFirst();
+        behindPruning();
+    }
+
+    /** Nothing but the session that broke off is on the disk. */
+    private static void ofTheFirst() {
+        int[] done = {2, 4, 6, 8, 16};
+        String[] due = {"S S -B S", "S -I S -B S", "S -X -I S -B S", "-M S -I S -B S", "-M -M S -I -I -T S -B S"};
+        for (int i = 0; i < done.length; i++) {
+            int at = i;
+            Supplier<Works> broken = () -> {
+                Works x = new Works();
+                Check.file(x, "a", "a");
+                Check.file(x, "b", "");
+                return recovering(underWay(x, 100, done[at]), 0);
+            };
+            does("of the first behind " + done[i], broken, due[i]);
+            Works x = broken.get();
+            Check.finish(x);
+            Check.due("the first is undone behind " + done[i], Check.disk(x), "0 0 0 0 0 0 0");
+            Check.session(x, 100);
+            isWhole("again behind " + done[i], x, "a 1 420 7 [a];b 1 420 7 [];");
+        }
+    }
+
+    /** All that led back was pruned ahead of the session that broke off. */
+    private static void behindPruning() {
+        Supplier<Works> broken = () -> {
+            Works x = two();
+            Check.command(x, "prune now");
+            return recovering(underWay(x, 200, 19), 0);
+        };
+        does("behind pruning", broken, "U>M! U>M -M S -I -I -I S -B S");
+        Works x = broken.get();
+        Check.finish(x);
+        isWhole("behind pruning", x, FIRST);
+        Check.due("undone behind pruning", Check.disk(x), "3 0 0 1 0 1 0");
     }
 
     private static void finishings() {
