@@ -150,6 +150,7 @@ public final class CommandsEdgeTest {
         }
         everyByte();
         nearPaths();
+        noDigits();
         longestPath();
     }
 
@@ -192,6 +193,27 @@ public final class CommandsEdgeTest {
         due(x, "list now a%25", 0, "f 0000 0 0 a%25\n");
         due(x, "list now a%252", 0, "f 0000 0 0 a%252\n");
         due(x, "list now a%20", 0, "f 0000 0 0 a%20\n");
+    }
+
+    /** A % with what is no digit, or is missing, is no path, whichever names of one byte there are. */
+    private static void noDigits() {
+        StringBuilder words = new StringBuilder("% %2 %% %%% %a %F");
+        for (char c = 33; c < 127; c++) {
+            if (Character.digit(c, 16) < 0) {
+                words.append(" %2").append(c).append(" %").append(c).append('2').append(" %").append(c).append(c);
+            }
+        }
+        int b = 1;
+        while (b < 256) {
+            Works x = new Works();
+            for (int count = 0; count < 40 && b < 256; b++) {
+                count += Check.make(x, String.valueOf((char) b), 1, 0, 0) < 0 ? 0 : 1;
+            }
+            Check.session(x, 1);
+            for (String word : words.toString().split(" ")) {
+                due(x, "list now " + word, 5, "");
+            }
+        }
     }
 
     private static void longestPath() {

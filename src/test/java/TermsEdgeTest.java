@@ -317,6 +317,40 @@ public final class TermsEdgeTest {
         Check.make(x, "d/1", 1, 0, 0);
         Check.due("they come anew", Check.locked(x), "000111");
         Check.refused("and a fourth", x, () -> set(x, 1, 1, true), Check.STATE);
+        everyThree();
+    }
+
+    /** Whichever three of five are locked, a fourth is refused, and is not when one of the three went. */
+    private static void everyThree() {
+        for (int set = 0; set < 32; set++) {
+            if (Integer.bitCount(set) != 3) {
+                continue;
+            }
+            Works x = new Works();
+            for (int i = 0; i < 5; i++) {
+                Check.make(x, String.valueOf((char) ('a' + i)), 1, 0, 0);
+                x.set(0, 0, (set >> i & 1) == 1);
+            }
+            for (int i = 0; i < 5; i++) {
+                Works y = x.twin();
+                Check.choose(y, String.valueOf((char) ('a' + i)));
+                if ((set >> i & 1) == 0) {
+                    Check.refused("a fourth beside " + set, y, () -> set(y, 1, 1, true), Check.STATE);
+                    continue;
+                }
+                y.set(1, 1, true);
+                y.remove();
+                String other = String.valueOf((char) ('a' + Integer.numberOfTrailingZeros(~set)));
+                Works z = y.twin();
+                Check.choose(z, other);
+                Check.due("another one beside two of " + set, Check.of(() -> z.set(0, 0, true)), 0);
+                Check.make(y, "f", 1, 0, 0);
+                y.set(0, 0, true);
+                Check.due("one that comes anew beside two of " + set, y.entry(0, 4, 5), 1);
+                Check.choose(y, other);
+                Check.refused("a fourth again beside " + set, y, () -> set(y, 1, 1, true), Check.STATE);
+            }
+        }
     }
 
     private static void sessions() {

@@ -120,6 +120,15 @@ public final class TimesEdgeTest {
         for (String none : new String[] {"1W1D1h1m1s1s", "1s1m1h1D1W1s", "1S", "1M", "1H", "1d", "1w", "1y", "0s0m0h0D0W0", "0s0s"}) {
             means(x, none, 0);
         }
+        for (String first : units.split("")) {
+            for (String second : units.split("")) {
+                for (String none : new String[] {"1" + first + second, first + "1" + second, "1" + first + "0000000" + second,
+                    "0000000" + first + "1" + second, "1" + first + "-1" + second, "1" + first + "1", "1" + first + "1" + second + "1"}) {
+                    means(x, none, 0);
+                }
+                means(x, "0" + first + "000000" + second, first.equals(second) ? 0 : 3);
+            }
+        }
     }
 
     private static void largeSums() {
