@@ -1010,7 +1010,7 @@ public final class MirrorWorks {
         /** Where the file of a name stands, or would stand. */
         private int place(int sort, int time, byte[] path) {
             int low = start(sort);
-            int high = low + counts[sort];
+            int high = Math.min(low + counts[sort], files.size());
             while (low < high) {
                 int middle = low + high >>> 1;
                 DiskFile file = files.get(middle);
