@@ -19,8 +19,9 @@ public final class RoomTest {
     private RoomTest() {
     }
 
+    /** Whether there is room for the most calls that one turn of a loop here makes. */
     private boolean isOpen() {
-        return calls < CALLS;
+        return calls + 15 <= CALLS;
     }
 
     private void tape(String text) {
@@ -153,6 +154,7 @@ public final class RoomTest {
             case 3 -> test.commands();
             default -> test.sessions();
         }
+        Check.due("calls of run " + which, test.calls <= CALLS ? 1 : 0, 1);
         return taken() - before;
     }
 
