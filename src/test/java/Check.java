@@ -34,12 +34,17 @@ final class Check {
     static void sentence(String quoted) {
         sentences++;
         about = "\"" + quoted + "\" ";
-        if (Files.exists(DOCUMENT)) {
+        if (hasDocument()) {
             due("it stands in the document", document().contains(quoted) ? 1 : 0, 1);
         }
     }
 
-    private static String document() {
+    static boolean hasDocument() {
+        return Files.exists(DOCUMENT);
+    }
+
+    /** The whole document, each run of blanks and line ends as one blank. */
+    static String document() {
         try {
             if (document == null) {
                 document = Files.readString(DOCUMENT).replaceAll("\\s+", " ");

@@ -1,7 +1,10 @@
+import java.io.IOException;
 import java.lang.reflect.Constructor;
 import java.lang.reflect.Field;
 import java.lang.reflect.Method;
 import java.lang.reflect.Modifier;
+import java.nio.file.Files;
+import java.nio.file.Path;
 import java.util.Arrays;
 import java.util.TreeSet;
 
@@ -51,7 +54,26 @@ public final class FaceTest {
         return text.toString();
     }
 
-    public static void main(String[] args) {
+    /** Each line of the face in the document stands in the class as it is, and nothing else is public there. */
+    private static void asWritten() throws IOException {
+        String source = Files.readString(Path.of("src", "main", "java", "MirrorWorks.java")).replaceAll("\\s+", " ");
+        String document = Check.document();
+        int from = document.indexOf("```java ") + 8;
+        String face = document.substring(from, document.indexOf(" } ```", from));
+        int lines = 0;
+        for (String line : face.split("[;{]")) {
+            String due = line.trim() + (line.contains("NONE") ? ";" : " {");
+            Check.due("[" + due + "] in the class", source.contains(due) ? 1 : 0, 1);
+            lines++;
+        }
+        Check.due("lines of the face", lines, FACE.length + 3);
+        Check.due("what is public", source.split("\\bpublic ", -1).length - 1, lines);
+    }
+
+    public static void main(String[] args) throws IOException {
+        if (Check.hasDocument()) {
+            asWritten();
+        }
         TreeSet<String> seen = new TreeSet<>();
         TreeSet<String> names = new TreeSet<>();
         for (Method method : MirrorWorks.class.getDeclaredMethods()) {

@@ -169,7 +169,7 @@ public final class TermsEdgeTest {
     }
 
     private static void contentOfOne() {
-        Check.sentence("CONTENT: bytes, of a FILE at most 1200, of a LINK at most 100");
+        Check.sentence("and, but for a DIRECTORY, CONTENT: bytes, of a FILE at most 1200, of a LINK at most 100");
         Works x = new Works();
         Check.zeroFile(x, "f", 1, 1199);
         Check.due("1200", Check.write(x, "z", 1199), 1200);
