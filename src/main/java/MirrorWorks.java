@@ -684,8 +684,7 @@ public final class MirrorWorks {
 
         /** No name has a byte 0, so a / that counts as 0 puts what is at an end first. */
         static int order(byte[] a, byte[] b) {
-            int most = Math.min(a.length, b.length);
-            for (int i = 0; i < most; i++) {
+            for (int i = 0; i < a.length && i < b.length; i++) {
                 int x = a[i] == '/' ? 0 : a[i] & 255;
                 int y = b[i] == '/' ? 0 : b[i] & 255;
                 if (x != y) {
